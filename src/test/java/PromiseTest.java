@@ -118,6 +118,11 @@ public final class PromiseTest {
         for (int[] w : wrong) {
             Checks.refused("2: add(" + w[0] + ", " + w[1] + ")", x, ARGUMENT, () -> x.add(w[0], w[1]));
         }
+        x.span(2, 5, 9);
+        x.live(2, 5, 9);
+        x.remove(2);
+        same("2: after a removed one", x.add(1, 2), 2);
+        line("2: nothing of it is left", x, 2, 1, 2, 0, 63, 0, 99);
         LineLives full = withLines(20);
         same("2: the last number", full.line(19, 1), 19);
         Checks.refused("2: a line too many", full, STATE, () -> full.add(0, 0));
@@ -238,6 +243,10 @@ public final class PromiseTest {
         line("8", x, 1, 0, 9, 0, 63, 0, 99);
         line("8", x, 2, 1, 4, 0, 63, 0, 99);
         same("8: nothing more", x.prune(), 0);
+        LineLives ends = with("0x+9;0x+5;0x+8");
+        same("8: the first one and the last one", ends.prune(), 2);
+        line("8", ends, 0, 0, 5, 0, 63, 0, 99);
+        same("8: one is left", ends.count(1), 1);
         LineLives y = with("0x+0;0x+1;0x+2;0x-1@7-7");
         y.span(1, 3, 3);
         y.span(0, 1, 63);
@@ -306,7 +315,7 @@ public final class PromiseTest {
         {"1x+0@0-0", 8, true}, {"1x+0@0-00", 8, false}, {"1x+0@0-99", 9, true}, {"1x+0@0-100", 9, false},
         {"1x+0@0-5", 8, true}, {"1x+0@50-4", 8, false}, {"1x+0@55-5", 9, false}, {"1x+0@55-54", 9, false},
         {"1x+0@55-55", 10, true}, {"1x+0@55-555", 10, false}, {"1x+0@55-6", 9, false}, {"1x+0@55-60", 10, true},
-        {"1x+0@10-1", 9, false}, {"1x+0@10-10", 10, true}, {"1x+0@9-9", 8, true}, {"1x+0@9-09", 7, false},
+        {"1x+0@11-10", 9, false}, {"1x+0@10-1", 9, false}, {"1x+0@10-10", 10, true}, {"1x+0@9-9", 8, true}, {"1x+0@9-09", 7, false},
         {"1x+0@1--", 7, false}, {"1x+0@1-2@", 8, false}, {"1x+0@1-2-", 8, false},
         {"1x+0@20-3;", 9, false}, {";", 0, false}, {"1x+0;", 5, false}, {"1x+0;;", 5, false},
         {"1x+0;@", 5, false}, {"1x+0;-1x-1", 10, true}, {"1x+0@1-2;-3x-4@5-6", 18, true},
@@ -403,6 +412,7 @@ public final class PromiseTest {
             long before = x.digest();
             changes[i].on(x);
             same("14: change " + i + " saves a state", x.count(8), 2);
+            same("14: change " + i + ", the digest then", x.digest(), PlainDigest.of(x, ""));
             same("14: change " + i + " undone", x.undo(), 1);
             same("14: change " + i + ", the digest", x.digest(), before);
             same("14: the one before it", x.undo(), 0);
@@ -445,6 +455,7 @@ public final class PromiseTest {
         same("15: at the place that it has alone", y.line(1, 8), 20);
         y.span(0, 0, 63);
         same("15: nowhere then", y.line(1, 8), -1);
+        same("15: behind the only moment of a lower one", with("0x+0@5-5;0x+1@5-99").line(1, 8), 6);
         y.span(0, 1, 63);
         same("15: nodes", y.line(0, 7), 0);
         y.go(20);
@@ -604,6 +615,12 @@ public final class PromiseTest {
         node("19: spans side by side", z, 3, 1, 1);
         node("19: spans side by side", z, 1, 2, 1);
         same("19: the line 1 in two nodes", z.line(1, 7), 2);
+        LineLives end = with("0x+5");
+        end.span(0, 63, 63);
+        same("19: the last node, steps", end.node(127, 4), 1);
+        node("19: the last node", end, 127, 0, 1);
+        same("19: the last node, all steps", end.count(5), 1);
+        same("19: the last node, the digest", end.digest(), PlainDigest.of(end, ""));
         LineLives deep = with("1x+0;-1x+62");
         deep.span(1, 24, 31);
         deep.span(0, 16, 31);

@@ -63,7 +63,7 @@ public final class RandomRunsTest {
                 calls++;
             } else {
                 long due = PlainDigest.of(lives, plain.buffer());
-                Checks.same("run " + run + ": digest()", lives.digest(), due);
+                tell("digest[]", lives.digest(), due);
                 calls++;
             }
         }
@@ -199,9 +199,17 @@ public final class RandomRunsTest {
         Method same = PlainLines.class.getMethod(method.getName(), method.getParameterTypes());
         Object due = answer(same, plain, arguments);
         Object got = answer(method, lives, arguments);
-        String call = method.getName() + Arrays.toString(arguments);
+        tell(method.getName() + Arrays.toString(arguments), got, due);
+    }
+
+    /** After a wrong answer it prints the run that led to it, and ends the test: the next answers follow from it. */
+    private void tell(String call, Object got, Object due) {
         told.add(call);
-        Checks.same("run " + run + ", call " + told.size() + ": " + call, got, due);
+        if (!got.equals(due)) {
+            System.out.println("run " + run + ": " + String.join(" ", told));
+            Checks.same("run " + run + ", call " + told.size() + ": " + call, got, due);
+            Checks.end();
+        }
     }
 
     private static Object answer(Method method, Object on, Object... arguments) throws Exception {
