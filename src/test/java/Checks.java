@@ -3,6 +3,8 @@ import java.util.Objects;
 /** Counts the answers of a test that are not the ones that are due. */
 final class Checks {
     private static int wrong = 0;
+    // What the answers are told to belong to.
+    private static String test = "";
 
     private Checks() {
     }
@@ -15,7 +17,7 @@ final class Checks {
     static void same(String what, Object got, Object due) {
         if (!Objects.equals(got, due)) {
             wrong++;
-            System.out.println(what + ": got " + got + ", due is " + due);
+            System.out.println(test + what + ": got " + got + ", due is " + due);
         }
     }
 
@@ -37,6 +39,13 @@ final class Checks {
         } catch (RuntimeException e) {
             return e.getClass();
         }
+    }
+
+    /** A test of its own: whatever it throws is a wrong answer of it, and the next test goes on. */
+    static void test(String name, Call calls) {
+        test = name + ": ";
+        same("throws", thrownBy(calls), null);
+        test = "";
     }
 
     /** Ends the test: with the exit code 1 if an answer was wrong. */

@@ -476,7 +476,48 @@ final class PlainLines {
         return places == 0 ? 0.0 : (double) sum(0, 63) / places;
     }
 
-    String buffer() {
-        return buffer.toString();
+    public long digest() {
+        List<Long> values = new ArrayList<>();
+        for (int what = 0; what <= 8; what++) {
+            values.add((long) count(what));
+        }
+        for (int line = 0; line < lines.size(); line++) {
+            for (int what = 0; what <= 8; what++) {
+                values.add((long) line(line, what));
+            }
+            values.add((long) worth(line));
+            if (line > 0) {
+                values.add((long) meet(line, 0));
+            }
+        }
+        tellNodesAndRows(values);
+        values.add((long) sum(0, 63));
+        for (int place = 0; place <= 63; place += 21) {
+            values.add((long) lowest(place, 50));
+            values.add((long) ranked(place, 1));
+            values.add((long) changesAt(place));
+        }
+        values.add((long) ifAdded(0, 0));
+        values.add((long) highest(1));
+        values.add(Double.doubleToLongBits(mean()));
+        values.add((long) buffer.length());
+        buffer.chars().forEach(code -> values.add((long) code));
+        return values.stream().reduce(2591L, (hash, value) -> 31 * hash + value);
+    }
+
+    private void tellNodesAndRows(List<Long> values) {
+        for (int node = 1; node <= 127; node++) {
+            if (node(node, 0) != -1) {
+                values.add((long) node);
+                for (int what = 0; what <= 4; what++) {
+                    values.add((long) node(node, what));
+                }
+            }
+        }
+        for (int[] row : rows()) {
+            for (int number : row) {
+                values.add((long) number);
+            }
+        }
     }
 }

@@ -1,3 +1,5 @@
+import java.util.function.Supplier;
+
 /** Each promise by hand: ordinary inputs, the edges that the document names, and wrong inputs. */
 public final class PromiseTest {
     private static final Class<?> ARGUMENT = IllegalArgumentException.class;
@@ -859,15 +861,23 @@ public final class PromiseTest {
         same("29: a new object, by hand", new LineLives().digest(), hash);
         String[] texts = {"1x+0;-1x+63", "-99x-9999;99x+9999@5-60;0x+0@50-50", "3x-7;-2x+9;1x+1;0x-13@0-49;7x+3@50-99"};
         for (String text : texts) {
-            LineLives x = with(text);
-            same("29: " + text, x.digest(), PlainDigest.of(x, ""));
-            x.span(0, 1, 21);
-            x.span(1, 22, 62);
-            type(x, "1x~!");
-            same("29: " + text + ", spans", x.digest(), PlainDigest.of(x, "1x~!"));
-            x.go(50);
-            same("29: " + text + ", at 50", x.digest(), PlainDigest.of(x, "1x~!"));
-            same("29: nothing is changed", x.digest(), PlainDigest.of(x, "1x~!"));
+            same("29: " + text, with(text).digest(), PlainDigest.of(() -> with(text), ""));
+            Supplier<LineLives> spans = () -> {
+                LineLives x = with(text);
+                x.span(0, 1, 21);
+                x.span(1, 22, 62);
+                type(x, "1x~!");
+                return x;
+            };
+            same("29: " + text + ", spans", spans.get().digest(), PlainDigest.of(spans, "1x~!"));
+            Supplier<LineLives> at50 = () -> {
+                LineLives x = spans.get();
+                x.go(50);
+                return x;
+            };
+            LineLives x = at50.get();
+            same("29: " + text + ", at 50", x.digest(), PlainDigest.of(at50, "1x~!"));
+            same("29: nothing is changed", x.digest(), x.digest());
         }
         for (int offset = -40; offset <= 40; offset++) {
             LineLives x = new LineLives();

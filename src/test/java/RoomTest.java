@@ -27,13 +27,13 @@ public final class RoomTest {
 
     private static void run(LineLives lives) {
         int calls = 0;
-        while (lives.count(1) < 20) {
-            int line = lives.add(lives.count(1) - 10, 7 * lives.count(1));
+        for (int line = 0; line < 20; line++) {
+            lives.add(line - 10, 7 * line);
             lives.live(line, line, 50 + 2 * line);
             lives.span(line, line / 2, 63 - line);
-            calls += 4;
+            calls += 3;
         }
-        while (calls < CALLS) {
+        while (calls + 9 <= CALLS) {
             lives.go(calls % 100);
             lives.lift(calls % 20, calls % 7 - 3);
             lives.append(33 + calls % 94);
