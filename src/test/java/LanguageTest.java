@@ -1,41 +1,16 @@
-import com.sun.source.tree.AssertTree;
-import com.sun.source.tree.BinaryTree;
-import com.sun.source.tree.ClassTree;
-import com.sun.source.tree.CompilationUnitTree;
-import com.sun.source.tree.ImportTree;
-import com.sun.source.tree.LambdaExpressionTree;
-import com.sun.source.tree.MemberReferenceTree;
-import com.sun.source.tree.MemberSelectTree;
-import com.sun.source.tree.MethodInvocationTree;
-import com.sun.source.tree.MethodTree;
-import com.sun.source.tree.SynchronizedTree;
-import com.sun.source.tree.Tree;
-import com.sun.source.tree.TryTree;
-import com.sun.source.tree.VariableTree;
-import com.sun.source.util.JavacTask;
-import com.sun.source.util.TreePath;
-import com.sun.source.util.TreePathScanner;
-import com.sun.source.util.Trees;
-import java.io.File;
+import java.io.IOException;
 import java.lang.reflect.Constructor;
 import java.lang.reflect.Field;
 import java.lang.reflect.Method;
 import java.lang.reflect.Modifier;
-import java.util.ArrayList;
+import java.nio.charset.StandardCharsets;
+import java.nio.file.Files;
+import java.nio.file.Path;
 import java.util.Arrays;
 import java.util.HashSet;
-import java.util.LinkedHashMap;
-import java.util.LinkedHashSet;
 import java.util.List;
-import java.util.Map;
 import java.util.Set;
 import java.util.stream.Collectors;
-import javax.lang.model.element.Element;
-import javax.lang.model.element.ExecutableElement;
-import javax.lang.model.element.TypeElement;
-import javax.tools.JavaCompiler;
-import javax.tools.StandardJavaFileManager;
-import javax.tools.ToolProvider;
 
 /** The face that the document asks for, and those rules of LANGUAGE.md that can be seen from the source. */
 public final class LanguageTest {
@@ -53,23 +28,97 @@ public final class LanguageTest {
             "int count(int)" + ARGUMENT, "int ifAdded(int,int)" + ARGUMENT, "int highest(int)" + ARGUMENT,
             "int worth(int)" + INDEX, "int changesAt(int)" + ARGUMENT, "int meet(int,int)" + INDEX + ARGUMENT,
             "double mean()", "long digest()");
-    private static final Set<String> IMPORTS = Set.of("java.util.Arrays", "java.util.ArrayList", "java.util.List",
-            "java.util.Iterator", "java.util.NoSuchElementException");
-    private static final Set<String> LIBRARY = Set.of("java.lang.String", "java.lang.StringBuilder",
-            "java.util.ArrayList", "java.util.List", "java.lang.Integer", "java.lang.Long", "java.lang.Math",
-            "java.util.Iterator", "java.lang.Iterable", "java.lang.Comparable");
+    private static final Set<String> PUBLIC_NAMES = FACE.stream()
+            .map(method -> method.substring(method.indexOf(' ') + 1, method.indexOf('('))).collect(Collectors.toSet());
+
+    /** A rule, and a member of a class that breaks just this one. */
+    private static final String[][] BROKEN = {
+        {"rule 1: its name", "private int sum(int a) { return a; }"},
+        {"rule 1: its name", "private static final class A { int sum(int a) { return a; } }"},
+        {"rule 2: a local class", "private int a() { final class B { int b = 1; } return 1; }"},
+        {"rule 2: a lambda", "private interface A { int f(int a); } private void a(A f) { } void b() { a(c -> c); }"},
+        {"rule 2: a method reference",
+            "private interface A { int f(int a); } private void a(A f) { } void b() { a(Math::abs); }"},
+        {"rule 3: a type", "private Object a = null;"},
+        {"rule 3: a type", "private java.util.Map<Integer, Integer> a = null;"},
+        {"rule 3: a type", "private java.util.List<String> a = null;"},
+        {"rule 3: a type", "private int[][][] a = null;"},
+        {"rule 3: a type", "private boolean[][] a = null;"},
+        {"rule 3: a type", "private String[] a = null;"},
+        {"rule 3: a type", "private Integer[] a() { return null; }"},
+        {"rule 3: the rest", "private double a(double b) { return b % 2.0; }"},
+        {"rule 4: call of abs", "private double a(double b) { return Math.abs(b); }"},
+        {"rule 4: call of addExact", "private int a(int b) { return Math.addExact(b, b); }"},
+        {"rule 4: call of parseInt", "private int a(String b) { return Integer.parseInt(b); }"},
+        {"rule 4: call of trim", "private String a(String b) { return b.trim(); }"},
+        {"rule 4: call of nanoTime", "private long a() { return System.nanoTime(); }"},
+        {"rule 4: doubles", "private double a() { return Double.NaN; }"},
+        {"rule 4: a sign", "private String a() { return \"\u00e9\"; }"},
+        {"rule 5: a static field", "private static int a = 1;"},
+        {"rule 5: a static field", "private static final int[] A = new int[5];"},
+        {"rule 5: a static initialiser", "static { }"},
+        {"rule 6: what is thrown", "private void a() { throw new Error(\"b\"); }"},
+        {"rule 6: what is thrown", "private void a(String b) { throw new RuntimeException(b); }"},
+        {"rule 6: a throw in a constructor", "LineLives() { throw new RuntimeException(); }"},
+        {"rule 6: a throw in a method that catches", "private void b() { } private void a(int c) { "
+            + "if (c == 0) { throw new RuntimeException(); } try { b(); } catch (RuntimeException e) { return; } }"},
+        {"rule 6: a catch uses", "private void b() { } private boolean a() { "
+            + "try { b(); } catch (RuntimeException e) { return e == null; } return true; }"},
+        {"rule 6: what is caught", "private void b() { } private void a() { "
+            + "try { b(); } catch (NullPointerException e) { return; } }"},
+        {"rule 6: finally", "private void b() { } private void a() { try { b(); } finally { b(); } }"},
+        {"rule 6: synchronized", "private void a() { synchronized (this) { } }"},
+        {"rule 6: assert", "private void a(int b) { assert b > 0; }"},
+        {"rule 6: its name", "public int hashCode() { return 1; }"},
+        {"rule 6: == of texts", "private boolean a(String b, String c) { return b == c; }"},
+        {"rule 8: a recursion", "int a(int b) { return b <= 0 ? 0 : a(b - 1); }"},
+        {"rule 8: a recursion", "private int a(int b) { return c(b); } int c(int b) { return b <= 0 ? 0 : a(b - 1); }"},
+        {"rule 9: a loop", "private void a(int b) { while (b > 0) { b--; } }"},
+        {"rule 9: a loop", "private void a(int b) { do { b--; } while (b > 0); }"},
+        {"rule 9: a loop", "private void a(int b) { for (;;) { } }"},
+        {"rule 9: a loop", "private void a(int b) { for (int c = 0; b < 5; c++) { } }"},
+        {"rule 10: texts", "private String a(String b, int c) { return b + c; }"},
+        {"rule 10: texts", "private String a(String b) { b += 1; return b; }"},
+        {"rule 11: fields", "private int " + "abcdefghijklmnopqrstu".replaceAll("(.)(?=.)", "$1, ") + ";"},
+        {"rule 11: parameters", "private void a(int b, int c, int d, int e, int f, int g, int h, int i) { }"},
+        {"rule 11: a short method", "private void a() {" + "\n".repeat(60) + "}"},
+        {"rule 11: calls", "void a() { b(); } void b() { c(); } void c() { d(); } void d() { e(); } void e() { f(); } "
+            + "void f() { g(); } void g() { h(); } void h() { i(); } void i() { }"},
+        {"rule 12: an object", "private static final class A { } private A a() { return new A(); }"},
+        {"rule 12: an array", "private int[] a() { return new int[] {1}; }"},
+        {"rule 12: a constructor hands out", "private static final class A { A(LineLives b) { } } "
+            + "private A a; LineLives() { a = new A(this); }"},
+        {"rule 12: a constructor's call", "private static class A { A() { a(); } void a() { } }"},
+    };
+
+    /** Members of a class that break no rule, and that are near to one. */
+    private static final String[] KEPT = {
+        "private static final int A = 5; private static final int[] B = {1, 2};",
+        "private int[][] a = new int[3][4]; private boolean[] b = {true};",
+        "private static final class A { } private java.util.ArrayList<A> b = new java.util.ArrayList<>();",
+        "private java.util.List<Integer> a = new java.util.ArrayList<>(); int b(int c) { return a.get(c); }",
+        "private void b() { } private void a() { try { b(); } catch (IllegalStateException e) { return; } }",
+        "void a() { throw new UnsupportedOperationException(\"b\"); } void b() { throw new IllegalStateException(); }",
+        "private static int a(int b) { return b <= 0 ? 0 : a(b - 1); }",
+        "private int a(int[] b) { int c = 0; for (int d : b) { c += d; } return Math.max(c, Long.bitCount(5L)); }",
+        "private int[] a(int[] b) { return b.clone(); }",
+        "private final int a; LineLives() { this.a = 5; b(); } private void b() { }",
+        "void a() { b(); } void b() { c(); } void c() { d(); } void d() { e(); } void e() { f(); } "
+            + "void f() { g(); } void g() { h(); } void h() { }",
+        "private void a() {" + "\n".repeat(59) + "}",
+    };
 
     private LanguageTest() {
     }
 
-    public static void main(String[] args) throws Exception {
+    public static void main(String[] args) throws IOException {
         checkFace();
         checkNested();
-        checkSource(new File(args[0]));
+        String source = Files.readString(Path.of(args[0]), StandardCharsets.UTF_8);
+        Checks.same("rules broken by LineLives", SourceRules.breaches(source, PUBLIC_NAMES), List.of());
+        checkRules();
         Checks.end();
     }
-
-    // ---- rule 1
 
     private static void checkFace() {
         Checks.same("rule 1: the class", Modifier.toString(LineLives.class.getModifiers()), "public final");
@@ -101,169 +150,19 @@ public final class LanguageTest {
         Checks.same("rule 11: classes", LineLives.class.getDeclaredClasses().length <= 11, true);
     }
 
-    // ---- the other rules
-
-    private static void checkSource(File file) throws Exception {
-        JavaCompiler compiler = ToolProvider.getSystemJavaCompiler();
-        try (StandardJavaFileManager files = compiler.getStandardFileManager(null, null, null)) {
-            JavacTask task = (JavacTask) compiler.getTask(null, files, null, List.of("-proc:none"), null,
-                    files.getJavaFileObjects(file));
-            Iterable<? extends CompilationUnitTree> units = task.parse();
-            task.analyze();
-            for (CompilationUnitTree unit : units) {
-                Rules rules = new Rules(Trees.instance(task), unit);
-                rules.scan(unit, null);
-                rules.checkDepths();
-            }
+    /** Without this a rule that is looked for in a wrong way would look as one that is kept. */
+    private static void checkRules() throws IOException {
+        for (String[] broken : BROKEN) {
+            List<String> breaches = breachesOf(broken[1]);
+            Checks.same("found in " + broken[1] + ": " + breaches,
+                    !breaches.isEmpty() && breaches.stream().allMatch(breach -> breach.startsWith(broken[0])), true);
+        }
+        for (String kept : KEPT) {
+            Checks.same("rules broken by " + kept, breachesOf(kept), List.of());
         }
     }
 
-    private static final class Rules extends TreePathScanner<Void, Void> {
-        private final Trees trees;
-        private final CompilationUnitTree unit;
-        private final Map<Element, Set<Element>> calls = new LinkedHashMap<>();
-        private final Set<String> publicNames = FACE.stream()
-                .map(method -> method.substring(method.indexOf(' ') + 1, method.indexOf('('))).collect(Collectors.toSet());
-        private Element inside = null;
-
-        Rules(Trees trees, CompilationUnitTree unit) {
-            this.trees = trees;
-            this.unit = unit;
-        }
-
-        private void need(String rule, boolean holds, Tree tree) {
-            if (!holds) {
-                long at = trees.getSourcePositions().getStartPosition(unit, tree);
-                Checks.same(rule + ", at line " + unit.getLineMap().getLineNumber(at), false, true);
-            }
-        }
-
-        private long lineOf(long position) {
-            return unit.getLineMap().getLineNumber(position);
-        }
-
-        @Override
-        public Void visitImport(ImportTree tree, Void v) {
-            need("rule 4: import", IMPORTS.contains(tree.getQualifiedIdentifier().toString()), tree);
-            return super.visitImport(tree, v);
-        }
-
-        @Override
-        public Void visitClass(ClassTree tree, Void v) {
-            long fields = tree.getMembers().stream().filter(m -> m instanceof VariableTree f
-                    && !f.getModifiers().getFlags().contains(javax.lang.model.element.Modifier.STATIC)).count();
-            need("rule 11: fields", fields <= 20, tree);
-            return super.visitClass(tree, v);
-        }
-
-        @Override
-        public Void visitVariable(VariableTree tree, Void v) {
-            Set<javax.lang.model.element.Modifier> flags = tree.getModifiers().getFlags();
-            need("rule 5: static fields are final", !flags.contains(javax.lang.model.element.Modifier.STATIC)
-                    || flags.contains(javax.lang.model.element.Modifier.FINAL), tree);
-            return super.visitVariable(tree, v);
-        }
-
-        @Override
-        public Void visitMethod(MethodTree tree, Void v) {
-            Element before = inside;
-            inside = trees.getElement(getCurrentPath());
-            calls.put(inside, new LinkedHashSet<>());
-            long first = lineOf(trees.getSourcePositions().getStartPosition(unit, tree));
-            long last = lineOf(trees.getSourcePositions().getEndPosition(unit, tree));
-            need("rule 11: a short method", last - first < 60, tree);
-            need("rule 11: parameters", tree.getParameters().size() <= 7, tree);
-            String name = tree.getName().toString();
-            need("rule 1: its name is a public one's", !publicNames.contains(name)
-                    || inside.getEnclosingElement().getSimpleName().contentEquals("LineLives"), tree);
-            need("rule 6: its name", !Set.of("equals", "hashCode", "toString").contains(name), tree);
-            super.visitMethod(tree, v);
-            inside = before;
-            return null;
-        }
-
-        @Override
-        public Void visitMethodInvocation(MethodInvocationTree tree, Void v) {
-            Element called = trees.getElement(new TreePath(getCurrentPath(), tree.getMethodSelect()));
-            if (called instanceof ExecutableElement && inside != null) {
-                calls.get(inside).add(called);
-                need("rule 4: call of " + called, isAllowed(called), tree);
-            }
-            return super.visitMethodInvocation(tree, v);
-        }
-
-        private boolean isAllowed(Element called) {
-            Element owner = called.getEnclosingElement();
-            String type = owner instanceof TypeElement t ? t.getQualifiedName().toString() : "";
-            String name = called.getSimpleName().toString();
-            return type.startsWith("LineLives") || name.equals("<init>")
-                    || LIBRARY.contains(type) && !name.endsWith("Exact") || type.equals("java.lang.System")
-                    && name.equals("arraycopy") || type.equals("java.util.Arrays")
-                    && Set.of("copyOf", "copyOfRange", "fill").contains(name);
-        }
-
-        @Override
-        public Void visitMemberSelect(MemberSelectTree tree, Void v) {
-            need("rule 4: doubles", !tree.getExpression().toString().matches("Double|Float"), tree);
-            return super.visitMemberSelect(tree, v);
-        }
-
-        @Override
-        public Void visitLambdaExpression(LambdaExpressionTree tree, Void v) {
-            need("rule 2: a lambda", false, tree);
-            return super.visitLambdaExpression(tree, v);
-        }
-
-        @Override
-        public Void visitMemberReference(MemberReferenceTree tree, Void v) {
-            need("rule 2: a method reference", false, tree);
-            return super.visitMemberReference(tree, v);
-        }
-
-        @Override
-        public Void visitSynchronized(SynchronizedTree tree, Void v) {
-            need("rule 6: synchronized", false, tree);
-            return super.visitSynchronized(tree, v);
-        }
-
-        @Override
-        public Void visitAssert(AssertTree tree, Void v) {
-            need("rule 6: assert", false, tree);
-            return super.visitAssert(tree, v);
-        }
-
-        @Override
-        public Void visitTry(TryTree tree, Void v) {
-            need("rule 6: finally or resources", tree.getFinallyBlock() == null && tree.getResources().isEmpty(), tree);
-            return super.visitTry(tree, v);
-        }
-
-        @Override
-        public Void visitBinary(BinaryTree tree, Void v) {
-            need("rule 10: texts joined by +", tree.getKind() != Tree.Kind.PLUS
-                    || !trees.getTypeMirror(getCurrentPath()).toString().equals("java.lang.String"), tree);
-            return super.visitBinary(tree, v);
-        }
-
-        void checkDepths() {
-            for (Element method : calls.keySet()) {
-                List<Element> path = longestFrom(method, new ArrayList<>());
-                Checks.same("rule 11: calls " + path, path.size() <= 8, true);
-            }
-        }
-
-        /** The longest chain of calls; a method that calls itself counts once. */
-        private List<Element> longestFrom(Element method, List<Element> open) {
-            open.add(method);
-            List<Element> longest = new ArrayList<>(open);
-            for (Element called : calls.get(method)) {
-                if (calls.containsKey(called) && !open.contains(called)) {
-                    List<Element> path = longestFrom(called, open);
-                    longest = path.size() > longest.size() ? path : longest;
-                }
-            }
-            open.remove(open.size() - 1);
-            return longest;
-        }
+    private static List<String> breachesOf(String member) throws IOException {
+        return SourceRules.breaches("public final class LineLives { " + member + " }", PUBLIC_NAMES);
     }
 }
